@@ -1719,19 +1719,16 @@ public final class PromiseTrees {
         int liveIn(World world) {
             why = 0;
             fine = 0;
-            while (fine < lines && fine < BOOK_LINES && why == 0) {
-                int deed = deeds[fine];
-                if (deed != DAYS_PASS) {
-                    int reason = world.tryTo(deed, whose[fine]);
-                    why = reason == 0 ? 0 : 10 * deed + reason;
-                } else if (whose[fine] > world.daysLeft()) {
+            for (int k = 0; k < lines && k < BOOK_LINES && why == 0; k++) {
+                if (deeds[k] != DAYS_PASS) {
+                    int reason = world.tryTo(deeds[k], whose[k]);
+                    why = reason == 0 ? 0 : 10 * deeds[k] + reason;
+                } else if (whose[k] > world.daysLeft()) {
                     why = TOO_FEW_DAYS;
                 } else {
-                    world.passDays(whose[fine]);
+                    world.passDays(whose[k]);
                 }
-                if (why == 0) {
-                    fine++;
-                }
+                fine = why == 0 ? k + 1 : k;
             }
             judged = true;
             dayThen = world.day;
@@ -1924,10 +1921,16 @@ public final class PromiseTrees {
                 return tokens.fail(Tokens.SURPLUS);
             }
             ones++;
-            if (tokens.kind == '(') {
-                return readBracket(depth);
+            switch (tokens.kind) {
+                case '(': return readBracket(depth);
+                case Tokens.NOT: return readNot(depth);
+                case Tokens.BY:
+                case Tokens.TO: return readMan(tokens.kind);
+                case Tokens.TALL:
+                case Tokens.TILL:
+                case Tokens.NUMBERED: return readMeasure(tokens.kind);
+                default: return readState(tokens.kind);
             }
-            return tokens.kind == Tokens.NOT ? readNot(depth) : readPlain(tokens.kind);
         }
 
         private static boolean beginsOne(int kind) {
@@ -1955,19 +1958,10 @@ public final class PromiseTrees {
             return true;
         }
 
-        private boolean readPlain(int step) {
-            boolean fine = true;
-            if (step == Tokens.BY || step == Tokens.TO) {
-                fine = readMan(step);
-            } else if (step == Tokens.TALL || step == Tokens.TILL || step == Tokens.NUMBERED) {
-                fine = readMeasure(step);
-            } else {
-                draft.addStep(step, 0, 0);
-            }
-            if (fine) {
-                tokens.advance();
-            }
-            return fine;
+        private boolean readState(int step) {
+            draft.addStep(step, 0, 0);
+            tokens.advance();
+            return true;
         }
 
         private boolean readMan(int step) {
@@ -1979,6 +1973,7 @@ public final class PromiseTrees {
                 return tokens.fail(Tokens.NAMING);
             }
             draft.addStep(step, 0, m);
+            tokens.advance();
             return true;
         }
 
@@ -1992,6 +1987,7 @@ public final class PromiseTrees {
                 return false;
             }
             draft.addStep(step, sign, tokens.number());
+            tokens.advance();
             return true;
         }
     }
