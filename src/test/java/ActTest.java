@@ -200,6 +200,8 @@ public final class ActTest {
         x.days(39);
         Check.due("day 399", x.now(0), 399);
         Check.due("one is left", x.days(2), 1);
+        Check.due("the last day is undone", x.undo(), 7);
+        Check.due("day 399 again", x.now(0), 399);
     }
 
     private static void undoing() {

@@ -148,6 +148,10 @@ public final class FutureTest {
         Check.due("as many as are left", x.drawn(60, 5), 40);
         Check.due("none", x.drawn(60, 5), 0);
         Check.due("which is not undone", x.undo(), 6);
+        x.days(39);
+        Check.due("the last day", x.drawn(2, 5), 1);
+        Check.due("is undone", x.undo(), 7);
+        Check.due("day 399", x.now(0), 399);
         PromiseTrees y = Check.on("man a 0 0;man b 3 3;");
         Check.due("no promises", y.drawn(1, 1), -1);
         PromiseTrees z = Check.on("man a 0 0;man b 3 3;promise p a b 1 0 20 300;promise q a b 2 0 20 300;clash p q;storm 0;");

@@ -371,10 +371,13 @@ public final class ModelTest {
         String want = answer(PLAIN.get(name), model, args);
         String got = answer(REAL.get(name), real, args);
         log.add(name + Arrays.toString(row) + " = " + got);
-        if (!got.equals(want)) {
+        boolean same = got.equals(want);
+        if (!same) {
             int from = Math.max(0, log.size() - 12);
             System.out.println(String.join("\n", log.subList(from, log.size())));
-            Check.due(name + ": the class says " + got + ", the model " + want, 0, 1);
+        }
+        Check.due(name + ": the class says " + got + ", the model " + want, same, true);
+        if (!same) {
             Check.close();
         }
     }
