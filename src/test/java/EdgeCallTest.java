@@ -634,6 +634,9 @@ public final class EdgeCallTest {
         Check.due("to c's door nothing does", w.way(0, 2) * 10 + w.bars(0, 2), 10);
         w.keep(0);
         Check.due("p does not stand", w.bars(0, 1), 0);
+        PromiseTrees u = Check.on("land 3 3;man a 0 0;man b 2 0;man c 1 0;promise p a c 1 1 0 9;promise q a b 0 1 0 9;"
+            + "promise r a c 1 2 10 9;");
+        Check.due("p and r would, q would not", u.bars(0, 1), 5);
         PromiseTrees v = Check.on(gate);
         v.breaks(0);
         Check.due("it is shut now", v.bars(0, 1), NONE);
