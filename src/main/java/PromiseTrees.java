@@ -815,6 +815,16 @@ public final class PromiseTrees {
             return NONE;
         }
 
+        /** The promise whose tree was planted there, whatever has become of it. */
+        int treeIn(int x, int y) {
+            for (int p = 0; p < promises; p++) {
+                if (treeX[p] == x && treeY[p] == y) {
+                    return p;
+                }
+            }
+            return NONE;
+        }
+
         int givenBy(int m) {
             int words = 0;
             for (int p = 0; p < promises; p++) {
@@ -1150,27 +1160,17 @@ public final class PromiseTrees {
             return (shut & Land.cellBit(x, y)) != 0L;
         }
 
-        int uprightIn(int x, int y) {
-            for (int p = 0; p < land.promises; p++) {
-                if (land.treeX[p] == x && land.treeY[p] == y) {
-                    return state[p] == STANDS || state[p] == KEPT ? p : NONE;
-                }
-            }
-            return NONE;
-        }
-
         int thingIn(int x, int y) {
             for (int m = 0; m < land.men; m++) {
                 if (land.doorX[m] == x && land.doorY[m] == y) {
                     return 40 + m;
                 }
             }
-            for (int p = 0; p < land.promises; p++) {
-                if (land.treeX[p] == x && land.treeY[p] == y && state[p] != FELL) {
-                    return state[p] == STUMP ? 20 + p : p;
-                }
+            int p = land.treeIn(x, y);
+            if (p == NONE || state[p] == FELL) {
+                return 60;
             }
-            return 60;
+            return state[p] == STUMP ? 20 + p : p;
         }
 
         // ---- shade ----
@@ -1180,8 +1180,7 @@ public final class PromiseTrees {
             int those = 0;
             for (int p = 0; p < land.promises; p++) {
                 int away = land.treeY[p] - y;
-                boolean upright = state[p] == STANDS || state[p] == KEPT;
-                if (upright && land.treeX[p] == x && away > 0 && tall[p] - height >= 5 * away) {
+                if (land.treeX[p] == x && away > 0 && isUpright(p) && tall[p] - height >= 5 * away) {
                     those |= 1 << p;
                 }
             }
@@ -1286,8 +1285,8 @@ public final class PromiseTrees {
                     break;
                 }
                 shut |= Land.cellBit(x, y);
-                int q = uprightIn(x, y);
-                if (q != NONE && tall[q] < tall[p] && many < PROMISES_MOST) {
+                int q = land.treeIn(x, y);
+                if (q != NONE && isUpright(q) && tall[q] < tall[p] && many < PROMISES_MOST) {
                     state[q] = FELL;
                     struck[many] = q;
                     many++;
